@@ -843,12 +843,13 @@ public final class SecondTill {
         }
 
         private static int numbersBehind(char letter) {
-            switch (letter) {
-                case 'p': return 3;
-                case 's': return 2;
-                case 'd': return 1;
-                default: return 0;
+            if (letter == 'p') {
+                return 3;
             }
+            if (letter == 's') {
+                return 2;
+            }
+            return letter == 'd' ? 1 : 0;
         }
 
         private int endOfNumber(int place) {
@@ -875,13 +876,15 @@ public final class SecondTill {
             return place >= 0 && place < length ? letters[place] : (char) 0;
         }
 
+        /** Whether the shop takes the numbers of an ITEM of that letter; if so, it has them. */
         private boolean tell(char letter, Shop shop) {
-            switch (letter) {
-                case 'p': return shop.append(numbers[0], numbers[1], numbers[2]);
-                case 's': return shop.setPaces(numbers[0], numbers[1]);
-                case 'd': return shop.setSteps(numbers[0]);
-                default: return false;
+            if (letter == 'p') {
+                return shop.append(numbers[0], numbers[1], numbers[2]);
             }
+            if (letter == 's') {
+                return shop.setPaces(numbers[0], numbers[1]);
+            }
+            return letter == 'd' && shop.setSteps(numbers[0]);
         }
     }
 }

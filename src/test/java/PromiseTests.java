@@ -363,6 +363,8 @@ public final class PromiseTests {
         due("he goes back", v.goes(-1), 1);
         due("he goes back", v.goes(0), 0);
         due("he goes back", v.goes(1), NONE);
+        // As v, but 1 is there at 5 and DONE at 10, as at his place.
+        due("as soon is not sooner", laid("p2,20,2;p3,5,1;p0,3,9;s2,1;d3;").goes(-1), 3);
         promise = 13;
         due("at his place again", v.done(1, 1), 10);
         due("who went is as he was", v.done(0, 1), 36);
