@@ -1,4 +1,5 @@
 import java.io.IOException;
+import java.lang.management.ManagementFactory;
 import java.lang.reflect.Constructor;
 import java.lang.reflect.Field;
 import java.lang.reflect.Method;
@@ -22,6 +23,9 @@ public final class RulesTest {
     private static final String[] FORBIDDEN = {
         "throw", "throws", "try", "catch", "finally", "synchronized", "assert", "import", "package", "System",
         "Random", "Thread", "Object", "hashCode", "toString", "protected", "Exception", "->", "::"};
+    /** Of the library; all other names before a dot are fields, parameters and locals of the class's own types. */
+    private static final Set<String> LIBRARY = Set.of("Math.max", "Math.min", "Math.abs", "Integer.bitCount");
+    private static final long ROOMIEST_OBJECT = 8192, SMALLEST_OBJECT = 16;
     private static final int LONGEST_METHOD = 60, MOST_CLASSES = 12, MOST_FIELDS = 20, MOST_PARAMETERS = 7;
 
     private static int wrong = 0;
@@ -46,6 +50,7 @@ public final class RulesTest {
         fields(SecondTill.class);
         source(Files.readAllLines(SOURCE));
         oddArguments();
+        room();
         System.out.println(wrong == 0 ? "the rules are kept" : wrong + " rules are not kept");
         if (wrong != 0) {
             System.exit(1);
@@ -113,6 +118,10 @@ public final class RulesTest {
                 must(!found.find(), "line " + (i + 1) + " is without " + word);
             }
         }
+        Matcher library = Pattern.compile("\\b[A-Z][a-z]\\w*\\.\\w+").matcher(String.join("\n", code));
+        while (library.find()) {
+            must(LIBRARY.contains(library.group()), "the library is used only as told: " + library.group());
+        }
         methodsAreShort(code);
     }
 
@@ -157,5 +166,45 @@ public final class RulesTest {
         for (int k = 0; k < answers.length; k++) {
             must(answers[k] >= -4, "answer " + k + " by " + a + ", " + b + " is told: " + answers[k]);
         }
+    }
+
+    /** One room holds all objects of a run: a new one is small, and no call makes any. */
+    private static void room() {
+        long before = bytesMade();
+        SecondTill[] made = new SecondTill[1000];
+        for (int k = 0; k < made.length; k++) {
+            made[k] = new SecondTill();
+        }
+        long each = (bytesMade() - before) / made.length;
+        must(each <= ROOMIEST_OBJECT, "a new object is small, not of " + each + " bytes");
+        for (int round = 0; round < 2; round++) {
+            before = bytesMade();
+            long answers = 0;
+            for (SecondTill x : made) {
+                answers += callEach(x);
+            }
+            long bytes = bytesMade() - before;
+            // The first round loads what the machine itself needs; to ask for the bytes makes some, too.
+            must(round == 0 || bytes < SMALLEST_OBJECT * made.length, "no call makes an object, but " + bytes + " bytes were made");
+            must(answers != 0, "the calls were made");
+        }
+    }
+
+    private static long bytesMade() {
+        com.sun.management.ThreadMXBean threads =
+            (com.sun.management.ThreadMXBean) ManagementFactory.getThreadMXBean();
+        return threads.getThreadAllocatedBytes(Thread.currentThread().getId());
+    }
+
+    private static long callEach(SecondTill x) {
+        long sum = x.wipe() + x.write('p') + x.write('3') + x.write(',') + x.write('9') + x.write(',') + x.write('1')
+            + x.write(';') + x.fault() + x.lay();
+        for (int k = 0; k < 8; k++) {
+            sum += x.come(k % 4, 5 + k, 1 + k % 3) + x.tape(k, k % 2) + x.slow(1 + k) + x.goes(k) + x.kinds(k);
+            sum += x.person(k, 3) + x.done(k, 1) + x.overtaken(k) + x.oneRow(k) + x.beaten(k, k, 0) + x.count(k);
+        }
+        sum += x.best(0, 0) + x.best(1, 1) + x.fair(0) + x.called(0, 1) + x.open(3, 0) + x.learner() + x.day(7, 30, 0);
+        sum += x.keep() + x.keep() + x.keep() + x.forget() + x.leave(2) + x.pass(30) + x.undo() + x.back() + x.back();
+        return sum + x.back() + x.undo();
     }
 }
